@@ -26,6 +26,8 @@ public final class RoundedSums {
     private static final int SEEDS = 65_537;
 
     private static final int NOT_SUCH = -2;
+    /** Of VARIABLES as bits. */
+    private static final int EVERY = -1;
 
     private static final int INPUT = -2;
     private static final int PLUS = 0;
@@ -395,7 +397,7 @@ public final class RoundedSums {
         Forms paper = pieces.paper;
         spare.copy(current);
         for (int times = 0; times <= MOST_STEPS * MOST_GRID; times++) {
-            paper.reckon(spare, v);
+            paper.reckon(spare, spare.needsOf[v]);
             if (paper.boundOf(v) <= limit) {
                 return times;
             }
@@ -499,7 +501,7 @@ public final class RoundedSums {
         Program before = current;
         current = spare;
         spare = before;
-        forms.reckon(current, current.count - 1);
+        forms.reckon(current, EVERY);
     }
 
     private static boolean isSeed(int seed) {
@@ -528,6 +530,8 @@ public final class RoundedSums {
         final int[] gridOf = new int[MOST_VARIABLES];
         final int[] fineOf = new int[MOST_VARIABLES];
         final long[] weightOf = new long[MOST_VARIABLES];
+        /** As bits: the VARIABLE itself and all by which it is reckoned. */
+        final int[] needsOf = new int[MOST_VARIABLES];
         /** The VARIABLE, or NOT_SUCH of a NUMBER. */
         final int[] operandVariable = new int[MOST_VARIABLES * MOST_OPERANDS];
         final int[] operandNumber = new int[MOST_VARIABLES * MOST_OPERANDS];
@@ -543,6 +547,7 @@ public final class RoundedSums {
             System.arraycopy(other.gridOf, 0, gridOf, 0, MOST_VARIABLES);
             System.arraycopy(other.fineOf, 0, fineOf, 0, MOST_VARIABLES);
             System.arraycopy(other.weightOf, 0, weightOf, 0, MOST_VARIABLES);
+            System.arraycopy(other.needsOf, 0, needsOf, 0, MOST_VARIABLES);
             System.arraycopy(other.operandVariable, 0, operandVariable, 0, MOST_VARIABLES * MOST_OPERANDS);
             System.arraycopy(other.operandNumber, 0, operandNumber, 0, MOST_VARIABLES * MOST_OPERANDS);
             System.arraycopy(other.inputAt, 0, inputAt, 0, MOST_INPUTS);
@@ -572,6 +577,10 @@ public final class RoundedSums {
 
         int operands(int v) {
             return isPick(v) ? 4 : 2;
+        }
+
+        boolean needs(int v, int w) {
+            return (needsOf[v] >> w & 1) != 0;
         }
 
         /** The VARIABLE that bears a name, or NONE. */
@@ -624,7 +633,7 @@ public final class RoundedSums {
             return settle(v);
         }
 
-        /** FINE and WEIGHT of all; false if a WEIGHT is too great: those behind it stay unsettled. */
+        /** What follows from the others told, of all; false if a WEIGHT is too great: those behind it stay unsettled. */
         boolean settleAll() {
             for (int v = 0; v < count; v++) {
                 if (!settle(v)) {
@@ -635,10 +644,15 @@ public final class RoundedSums {
         }
 
         private boolean settle(int v) {
+            needsOf[v] = 1 << v;
             if (isInput(v)) {
                 fineOf[v] = 0;
                 weightOf[v] = Math.max(Math.abs(from[v]), Math.abs(to[v]));
                 return true;
+            }
+            for (int i = 0; i < operands(v); i++) {
+                int w = operandVariable[v * MOST_OPERANDS + i];
+                needsOf[v] |= w >= 0 ? needsOf[w] : 0;
             }
             fineOf[v] = Math.max(reckonedFine(v), gridOf[v]);
             weightOf[v] = reckonedWeight(v) + (1L << gridOf[v]);
@@ -974,7 +988,7 @@ public final class RoundedSums {
             for (int i = 0; i < other.used; i++) {
                 numbers[i] += times * other.numbers[i];
             }
-            used = Math.max(used, other.used);
+            used = used >= other.used ? used : other.used;
         }
 
         void addNoise(int which, long number) {
@@ -982,7 +996,7 @@ public final class RoundedSums {
                 return;
             }
             numbers[which] += number;
-            used = Math.max(used, which + 1);
+            used = used > which ? used : which + 1;
         }
 
         long radius() {
@@ -1029,13 +1043,16 @@ public final class RoundedSums {
             }
         }
 
-        /** VARIABLES up to the last one asked for. */
-        void reckon(Program program, int last) {
+        /** Of the VARIABLES wanted, as bits; those by which they are reckoned must be wanted, too. */
+        void reckon(Program program, int wanted) {
             noises = 0;
             for (int i = 0; i < program.inputs; i++) {
                 reckonInput(program, program.inputAt[i]);
             }
-            for (int v = 0; v < program.count && v <= last; v++) {
+            for (int v = 0; v < program.count; v++) {
+                if ((wanted >> v & 1) == 0) {
+                    continue;
+                }
                 switch (program.sign[v]) {
                     case PLUS:
                         reckonSum(program, v, 1);
@@ -1259,8 +1276,12 @@ public final class RoundedSums {
         final long[] exact = new long[MOST_VARIABLES];
         final long[] computed = new long[MOST_VARIABLES];
 
-        void reckon(Program program, int[] point, int last) {
-            for (int v = 0; v < program.count && v <= last; v++) {
+        /** Of a VARIABLE and those by which it is reckoned. */
+        void reckon(Program program, int[] point, int asked) {
+            for (int v = 0; v <= asked; v++) {
+                if (!program.needs(asked, v)) {
+                    continue;
+                }
                 if (program.sign[v] == INPUT) {
                     exact[v] = point[v];
                     computed[v] = point[v];
@@ -1379,7 +1400,7 @@ public final class RoundedSums {
                 ranged.from[v] = from[made * MOST_INPUTS + i];
                 ranged.to[v] = to[made * MOST_INPUTS + i];
             }
-            paper.reckon(ranged, asked);
+            paper.reckon(ranged, ranged.needsOf[asked]);
             boundOf[made] = paper.boundOf(asked);
             made++;
         }
@@ -1501,6 +1522,9 @@ public final class RoundedSums {
         private long moved(Program program, int v, long error) {
             for (int i = 0; i < program.inputs; i++) {
                 int input = program.inputAt[i];
+                if (!program.needs(v, input)) {
+                    continue;
+                }
                 int here = point[input];
                 for (int far = 256; far >= 1; far /= 2) {
                     for (int to = here + far; to >= here - far; to -= 2 * far) {

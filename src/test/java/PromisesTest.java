@@ -345,6 +345,10 @@ public final class PromisesTest {
             due("fine " + v, f.variable(v, 5), fines[v]);
             due("weight " + v, f.variable(v, 6), weights[v]);
         }
+        RoundedSums most = of("let a=0+0 round 0;let b=512-0 round 0;let c=pick a<b then -768 else 0 round 0;let d=b*b round 0;let e=1*b round 8");
+        for (int v = 0; v < 5; v++) {
+            due("8 at most " + v, most.variable(v, 5), 8);
+        }
         due("plus", f.variable(1, 3), 0);
         due("minus", f.variable(2, 3), 1);
         due("times", f.variable(3, 3), 2);
@@ -813,6 +817,46 @@ public final class PromisesTest {
         due("one POINT", r.at(0, 0), -1);
     }
 
+    private static void limits() {
+        promise = "12, most noises";
+        // a brings two, each square of it five: P four times, ROUNDED (FINE 2, GRID 3).
+        StringBuilder squares = new StringBuilder("input x from 1 to 3;input y from 1 to 3;input z from 2 to 4;let a=x*y round 1");
+        for (char c = 'b'; c < 'm'; c++) {
+            squares.append(";let ").append(c).append("=a*a round 3");
+        }
+        RoundedSums x = of(squares.toString());
+        due("noises", x.about(3), 3 + 2 + 11 * 5);
+        // a: VALUE 4 + 2 e0 + 2 e1 + 1 e3, DRIFT 1 e4. Squared: 4 e4, 5 * 1; the same again; 1 * 1; ROUNDED 4.
+        due("bound of l", x.bound(14), 4 + 5 + 4 + 5 + 1 + 4);
+        due("the last one", x.noise(59, 0), 14);
+        due("the last one", x.form(14, true, 59), 4);
+        due("l by e4", x.form(14, true, 4), 8);
+        promise = "26, most times";
+        StringBuilder chain = new StringBuilder("input x from 0 to 2;let a=x+0 round 8");
+        for (char c = 'b'; c < 'm'; c++) {
+            chain.append(";let ").append(c).append("=").append((char) (c - 1)).append("+x round 8");
+        }
+        RoundedSums y = of(chain.toString());
+        due("bound", y.bound(12), 12 * 128);
+        due("finer", y.finer(12, 0), 96);
+        due("finer", y.finer(12, 12), 84);
+        promise = "20, 21, most splits";
+        // p and q share what x brings by its MIDDLE, not their P: BOUND of s is how wide x is.
+        RoundedSums z = of("input x from 0 to 512;let r=1+0 round 1;let p=x*r round 0;let q=x*r round 0;let s=p-q round 0");
+        due("whole", z.split(4, 0, 0), 512);
+        due("1", z.split(4, 1, 0), 256);
+        due("2", z.split(4, 2, 0), 256);
+        due("3", z.split(4, 3, 0), 128);
+        due("30", z.split(4, 30, 0), 32);
+        due("31", z.split(4, 31, 0), 16);
+        due("40", z.split(4, 40, 0), 16);
+        due("40", z.split(4, 40, 1), 41);
+        due("splits(4, 16)", z.splits(4, 16), 31);
+        due("splits(4, 31)", z.splits(4, 31), 31);
+        due("splits(4, 32)", z.splits(4, 32), 15);
+        due("splits(4, 15)", z.splits(4, 15), -2);
+    }
+
     private static void troubles() {
         promise = "31";
         RoundedSums x = of(PLAIN);
@@ -878,6 +922,7 @@ public final class PromisesTest {
         splitting();
         seeking();
         finerGrids();
+        limits();
         troubles();
         System.out.println(wrong == 0 ? "all answers are as due" : wrong + " answers are not as due");
         if (wrong != 0) {
