@@ -1,88 +1,11 @@
-import java.nio.charset.StandardCharsets;
-import java.util.Arrays;
-import java.util.NoSuchElementException;
-
 /** Answers reckoned by hand from the document, promise by promise: ordinary inputs, edges, refused calls. */
-public final class PromisesTest {
-    private static final long NOTHING = Long.MIN_VALUE;
-    private static int wrong = 0;
-    private static String promise = "";
-
-    private static void due(String call, long got, long want) {
-        if (got != want) {
-            wrong++;
-            System.out.println(promise + ": " + call + " answered " + got + ", due is " + want);
-        }
+public final class PromisesTest extends Check {
+    public static void main(String[] args) {
+        runAll(PromisesTest.class);
     }
 
-    private static void due(String call, boolean got, boolean want) {
-        due(call, got ? 1 : 0, want ? 1 : 0);
-    }
-
-    /** Behind a call that was refused: its trouble. */
-    private static void refused(RoundedSums x, String call, long got, long want, int trouble) {
-        due(call, got, want);
-        due(call + " trouble", x.trouble(), trouble);
-    }
-
-    private static int word(byte[] bytes, int at) {
-        return (bytes[at] & 255) << 24 | (bytes[at + 1] & 255) << 16 | (bytes[at + 2] & 255) << 8 | bytes[at + 3] & 255;
-    }
-
-    private static void feed(RoundedSums x, String text) {
-        byte[] bytes = text.getBytes(StandardCharsets.ISO_8859_1);
-        byte[] padded = Arrays.copyOf(bytes, (bytes.length + 19) / 20 * 20);
-        Arrays.fill(padded, bytes.length, padded.length, (byte) ' ');
-        for (int at = 0; at < padded.length; at += 20) {
-            x.feed(word(padded, at), word(padded, at + 4), word(padded, at + 8), word(padded, at + 12), word(padded, at + 16));
-        }
-    }
-
-    private static int tell(RoundedSums x, String text) {
-        feed(x, text);
-        return x.program(text.length());
-    }
-
-    private static RoundedSums of(String text) {
-        RoundedSums x = new RoundedSums();
-        int count = tell(x, text);
-        if (count < 1) {
-            due("program of " + text + " (fault " + x.fault() + " at " + x.where() + ")", count, 1);
-        }
-        return x;
-    }
-
-    private static void faulty(String text, int fault, int where) {
-        RoundedSums x = of("let old = 1 + 2 round 0");
-        due(text, tell(x, text), -1);
-        due(text + " trouble", x.trouble(), 4);
-        due(text + " fault", x.fault(), fault);
-        due(text + " where", x.where(), where);
-        due(text + " tape", x.size(), 0);
-        due(text + " old program", x.at(0, 0), 3);
-        due(text + " fault stays", x.fault(), fault);
-        due(text + " where goes", x.where(), -1);
-    }
-
-    private static void good(String text, int count) {
-        RoundedSums x = new RoundedSums();
-        due(text, tell(x, text), count);
-        due(text + " fault", x.fault(), 0);
-        due(text + " trouble", x.trouble(), 0);
-        due(text + " where", x.where(), -1);
-    }
-
-    private static boolean throwsNoSuch(RoundedSums x, int i) {
-        try {
-            x.doubtful(i);
-            return false;
-        } catch (NoSuchElementException e) {
-            return true;
-        }
-    }
-
-    private static void newObject() {
-        promise = "1";
+    static void promise01_newObject() {
+        part = "1";
         RoundedSums x = new RoundedSums();
         due("trouble", x.trouble(), 0);
         due("size", x.size(), 0);
@@ -91,7 +14,7 @@ public final class PromisesTest {
         refused(x, "about", x.about(0), -1, 1);
         refused(x, "variable", x.variable(0, 0), NOTHING, 1);
         refused(x, "operand", x.operand(0, 0), -1, 1);
-        refused(x, "set", x.set(0, 0) ? 1 : 0, 0, 1);
+        refused(x, "set", x.set(0, 0), 1);
         refused(x, "at", x.at(0, 0), NOTHING, 1);
         refused(x, "went", x.went(0), -1, 1);
         refused(x, "form", x.form(0, true, -1), NOTHING, 1);
@@ -110,14 +33,14 @@ public final class PromisesTest {
         refused(x, "parts", x.parts(0, 1, 0), -1, 1);
         refused(x, "finer", x.finer(0, 0), -1, 1);
         refused(x, "grid", x.grid(0, 0), -1, 1);
-        refused(x, "range", x.range(0, 0, 0) ? 1 : 0, 0, 1);
+        refused(x, "range", x.range(0, 0, 0), 1);
         due("doubtful", throwsNoSuch(x, 0), true);
         due("constants", RoundedSums.NONE, -1);
         due("constants", RoundedSums.NOTHING, NOTHING);
     }
 
-    private static void feeding() {
-        promise = "2, 30";
+    static void promise02_feeding() {
+        part = "2, 30";
         RoundedSums x = new RoundedSums();
         refused(x, "about", x.about(0), -1, 1);
         for (int i = 1; i <= 25; i++) {
@@ -137,8 +60,8 @@ public final class PromisesTest {
         due("at", x.at(0, 0), 3);
     }
 
-    private static void programs() {
-        promise = "3";
+    static void promise03_programs() {
+        part = "3";
         RoundedSums x = new RoundedSums();
         refused(x, "program(1) of no bytes", x.program(1), -1, 2);
         refused(x, "program(-1)", x.program(-1), -1, 2);
@@ -171,8 +94,8 @@ public final class PromisesTest {
         due("fifteen", tell(x, most.toString()), 15);
     }
 
-    private static void texts() {
-        promise = "3, tokens";
+    static void promise03_texts() {
+        part = "3, tokens";
         good("let a=1+2round 0", 1);
         good("let a=1+2round0", 1);
         good("  let  a  =  1  +  2  round  0  ", 1);
@@ -192,8 +115,8 @@ public final class PromisesTest {
         due("in", of("let inputs=1+1 round 0;let in=inputs*inputs round 0").at(1, 0), 4);
     }
 
-    private static void forms1() {
-        promise = "4, 5, FORM";
+    static void promise04_form() {
+        part = "4, 5, FORM";
         faulty("", 1, 0);
         faulty("   ", 1, 3);
         faulty("x", 1, 0);
@@ -246,8 +169,8 @@ public final class PromisesTest {
         }
     }
 
-    private static void otherFaults() {
-        promise = "4, 5, BOUNDS";
+    static void promise04_otherFaults() {
+        part = "4, 5, BOUNDS";
         faulty("let a=1001+1 round 0", 2, 6);
         faulty("let a=-1001+1 round 0", 2, 7);
         faulty("let a=1+ - 1001 round 0", 2, 11);
@@ -262,7 +185,7 @@ public final class PromisesTest {
         faulty("input x from -5 to - 6", 2, 21);
         faulty("input x from -5 to 4", 2, 19);
         faulty("input x from 5 to 3", 2, 18);
-        promise = "4, 5, NAME";
+        part = "4, 5, NAME";
         faulty("let a=1+1 round 0;let a=1+1 round 0", 3, 22);
         faulty("let a=1+1 round 0;input a from", 3, 24);
         faulty("let a=b+1 round 0", 3, 6);
@@ -272,7 +195,7 @@ public final class PromisesTest {
         faulty("let a=pick b<", 3, 11);
         faulty("let a=pick 1<2 then 3 else b", 3, 27);
         faulty("let a=b+1 round 0;input b from 0 to 2", 3, 6);
-        promise = "4, 5, MANY";
+        part = "4, 5, MANY";
         String three = "input x from 0 to 2;input y from 0 to 2;input z from 0 to 2;";
         faulty(three + "input", 4, 60);
         faulty(three + " input x from", 4, 61);
@@ -285,7 +208,7 @@ public final class PromisesTest {
         faulty(twelve + "let", 4, 12 * 18);
         faulty(twelve + "let a=b", 4, 12 * 18);
         faulty(twelve + "le", 1, 12 * 18);
-        promise = "4, 5, GREAT";
+        part = "4, 5, GREAT";
         faulty("let a=1000*1000 round 0", 5, 4);
         faulty("let a=1000*1000 round 0 !", 5, 4);
         faulty("let a=1000*1000 round", 1, 21);
@@ -295,7 +218,7 @@ public final class PromisesTest {
         faulty("let a=999*1000 round 0;let b=a+997 round 1;let c=pick 1<2 then b else 0 round 0;", 5, 47);
         faulty("let a=500*999 round 0;let b=pick 1<a then 498 else a round 3", 5, 26);
         good("let a=500*999 round 0;let b=pick a<a then 498 else a round 0", 2);
-        promise = "4, 5, LACKS";
+        part = "4, 5, LACKS";
         faulty("input x from 0 to 2", 6, 19);
         faulty("input x from 0 to 2  ", 6, 21);
         faulty("input x from 0 to 2;", 1, 20);
@@ -305,8 +228,8 @@ public final class PromisesTest {
     private static final String PLAIN =
             "input x from 0 to 10;let y = x * 3 round 2;let t = y - x round 0;let q = pick t < 20 then y else 5 round 1";
 
-    private static void questions() {
-        promise = "6";
+    static void promise06_questions() {
+        part = "6";
         RoundedSums x = of("let k=2*3 round 0;input x from 0 to 4;input y from -10 to 10;let s=x*y round 1");
         due("variables", x.about(0), 4);
         due("inputs", x.about(1), 2);
@@ -325,7 +248,7 @@ public final class PromisesTest {
         due("range", wide.range(2, 0, 250), true);
         due("most points", wide.about(4), 999_999_999);
         due("no inputs", of("let a=1+1 round 0").about(4), 1);
-        promise = "7";
+        part = "7";
         long[][] want = {
             {0, 0, 0, 2, 0, 1, 7}, {1, 0, 4, -2, -2, 0, 4}, {1, -10, 10, -2, -2, 0, 10}, {0, 0, 0, 2, 1, 1, 42}};
         for (int v = 0; v < 4; v++) {
@@ -353,7 +276,7 @@ public final class PromisesTest {
         due("minus", f.variable(2, 3), 1);
         due("times", f.variable(3, 3), 2);
         due("pick", f.variable(5, 3), 3);
-        promise = "8";
+        part = "8";
         due("x of pick", f.operand(5, 0), 0);
         due("a of pick", f.operand(5, 1), 1);
         due("8 of pick", f.operand(5, 2), -2);
@@ -369,23 +292,23 @@ public final class PromisesTest {
         refused(f, "operand(-1, 0)", f.operand(-1, 0), -1, 1);
     }
 
-    private static void points() {
-        promise = "9";
+    static void promise09_points() {
+        part = "9";
         RoundedSums x = of("input x from -20 to 20;input y from 5 to 5;let a=x+0 round 2;let b=x+0 round 3;let c=x+0 round 0;"
                 + "let d=pick a<y then a else x round 1");
-        refused(x, "set(0, 21)", x.set(0, 21) ? 1 : 0, 0, 2);
-        refused(x, "set(0, -21)", x.set(0, -21) ? 1 : 0, 0, 2);
-        refused(x, "set(1, 4)", x.set(1, 4) ? 1 : 0, 0, 2);
-        refused(x, "set(2, 0)", x.set(2, 0) ? 1 : 0, 0, 1);
-        refused(x, "set(6, 0)", x.set(6, 0) ? 1 : 0, 0, 1);
-        refused(x, "set(-1, 0)", x.set(-1, 0) ? 1 : 0, 0, 1);
+        refused(x, "set(0, 21)", x.set(0, 21), 2);
+        refused(x, "set(0, -21)", x.set(0, -21), 2);
+        refused(x, "set(1, 4)", x.set(1, 4), 2);
+        refused(x, "set(2, 0)", x.set(2, 0), 1);
+        refused(x, "set(6, 0)", x.set(6, 0), 1);
+        refused(x, "set(-1, 0)", x.set(-1, 0), 1);
         due("nothing is set", x.at(0, 0), -20);
         due("set(0, 20)", x.set(0, 20), true);
         due("trouble", x.trouble(), 0);
         due("at", x.at(0, 1), 20);
         due("set(0, -20)", x.set(0, -20), true);
         due("set(1, 5)", x.set(1, 5), true);
-        promise = "10";
+        part = "10";
         int[] points = {-14, -13, -12, -10, -7, -6, -5, -2, -1, 0, 1, 2, 3, 5, 6, 7, 10, 13, 14, 18};
         int[] four = {-16, -12, -12, -8, -8, -8, -4, 0, 0, 0, 0, 0, 4, 4, 8, 8, 8, 12, 16, 16};
         int[] eight = {-16, -16, -16, -8, -8, -8, -8, 0, 0, 0, 0, 0, 0, 8, 8, 8, 8, 16, 16, 16};
@@ -402,7 +325,7 @@ public final class PromisesTest {
         refused(x, "at(6, 0)", x.at(6, 0), NOTHING, 1);
         refused(x, "at(-1, 0)", x.at(-1, 0), NOTHING, 1);
         due("an input's error", x.at(0, 2), 0);
-        promise = "11";
+        part = "11";
         // a is 4 at 5, so that COMPUTED goes THEN alone; 6 is 8 there, both go ELSE; 3 and 4: both THEN.
         int[] at = {4, 5, 6, 3};
         int[] went = {3, 2, 0, 3};
@@ -426,11 +349,11 @@ public final class PromisesTest {
         refused(x, "went(-1)", x.went(-1), -1, 1);
     }
 
-    private static void formsOf() {
+    static void promise12_forms() {
         // x 1 + 1 e0, y 2 + 0 e1, z -1 + 3 e2
         RoundedSums x = of("input x from 0 to 2;let a=x*x round 1;input y from 2 to 2;input z from -4 to 2;"
                 + "let b=a*z round 2;let c=b-a round 0;let d=y*c round 3;let e=a-a round 0");
-        promise = "12";
+        part = "12";
         // VALUE of a: 1 + 2 e0 + 1 e3; DRIFT: 1 e4 (2 to 0).
         long[] a = {1, 2, 0, 0, 1};
         for (int i = 0; i < a.length; i++) {
@@ -462,7 +385,7 @@ public final class PromisesTest {
         refused(x, "form(7, true, -2)", x.form(7, true, -2), NOTHING, 1);
         refused(x, "form(8, true, 0)", x.form(8, true, 0), NOTHING, 1);
         refused(x, "form(-1, true, 0)", x.form(-1, true, 0), NOTHING, 1);
-        promise = "13";
+        part = "13";
         due("least of b", x.reach(4, false, 0), -16);
         due("greatest of b", x.reach(4, false, 1), 14);
         due("radius of b", x.reach(4, false, 2), 15);
@@ -473,7 +396,7 @@ public final class PromisesTest {
         refused(x, "reach(4, true, 3)", x.reach(4, true, 3), NOTHING, 1);
         refused(x, "reach(4, true, -1)", x.reach(4, true, -1), NOTHING, 1);
         refused(x, "reach(8, true, 0)", x.reach(8, true, 0), NOTHING, 1);
-        promise = "14";
+        part = "14";
         due("bound of x", x.bound(0), 0);
         due("bound of b", x.bound(4), 6);
         due("bound of c", x.bound(5), 7);
@@ -481,7 +404,7 @@ public final class PromisesTest {
         due("bound of e", x.bound(7), 0);
         refused(x, "bound(8)", x.bound(8), NOTHING, 1);
         refused(x, "bound(-1)", x.bound(-1), NOTHING, 1);
-        promise = "15";
+        part = "15";
         int[] bringers = {0, 2, 3, 1, 1, 4, 4, 4, 6};
         int[] by = {0, 0, 0, 1, 3, 1, 1, 3, 3};
         for (int i = 0; i < by.length; i++) {
@@ -492,7 +415,7 @@ public final class PromisesTest {
         refused(x, "noise(-1, 0)", x.noise(-1, 0), -1, 1);
         refused(x, "noise(0, 2)", x.noise(0, 2), -1, 1);
         refused(x, "noise(0, -1)", x.noise(0, -1), -1, 1);
-        promise = "16";
+        part = "16";
         due("shared(1, 4)", x.shared(1, 4), 1);
         due("shared(4, 5)", x.shared(4, 5), 3);
         due("shared(6, 6)", x.shared(6, 6), 4);
@@ -500,7 +423,7 @@ public final class PromisesTest {
         refused(x, "shared(8, 0)", x.shared(8, 0), -1, 1);
         refused(x, "shared(0, 8)", x.shared(0, 8), -1, 1);
         refused(x, "shared(0, -1)", x.shared(0, -1), -1, 1);
-        promise = "17";
+        part = "17";
         due("part(5, 1)", x.part(5, 1), 2);
         due("part(5, 4)", x.part(5, 4), 5);
         due("part(5, 6)", x.part(5, 6), 0);
@@ -510,7 +433,7 @@ public final class PromisesTest {
         refused(x, "part(5, 8)", x.part(5, 8), NOTHING, 1);
         refused(x, "part(8, 1)", x.part(8, 1), NOTHING, 1);
         refused(x, "part(-1, 1)", x.part(-1, 1), NOTHING, 1);
-        promise = "18";
+        part = "18";
         due("blame(0)", x.blame(0), -2);
         due("blame(1)", x.blame(1), 1);
         due("blame(5)", x.blame(5), 4);
@@ -522,8 +445,8 @@ public final class PromisesTest {
         due("the first of like ones", like.blame(3), 1);
     }
 
-    private static void picks() {
-        promise = "12, 15, J";
+    static void promise19_picks() {
+        part = "12, 15, J";
         // T is x: -3 .. 3; U none. VALUE: J of y (0 .. 4) and -5: -5 .. 4, MIDDLE -1 (cut downwards), 5 by e2.
         RoundedSums x = of("input x from -3 to 3;input y from 0 to 4;let a=pick x<0 then y else -5 round 0");
         due("may", x.may(2), 15);
@@ -538,7 +461,7 @@ public final class PromisesTest {
         RoundedSums same = of("input x from -3 to 3;let a=pick x<0 then 7 else 7 round 0");
         due("same", same.form(1, false, -1), 7);
         due("noises", same.about(3), 1);
-        promise = "19";
+        part = "19";
         // r is x round 2 with 2 by its NOISE; x 0 .. 20.
         String head = "input x from 0 to 20;let r=x+0 round 2;let a=pick ";
         // T: 2 .. 22, 1 .. 21; U: -2 .. 2.
@@ -568,7 +491,7 @@ public final class PromisesTest {
         due("drift", m.form(2, true, -1), -50);
         due("drift by J", m.form(2, true, 2), 50);
         due("its J", m.noise(2, 1), 2);
-        promise = "12, UP";
+        part = "12, UP";
         RoundedSums up = of("input x from 100 to 100;input y from 0 to 4;let r=x+0 round 8;let s=r-x round 0;let a=pick r<101 then y else 50 round 0;let b=a+1 round 1");
         // r: 100 and 128 by e2: may be anything from -28 to 228: THEN or ELSE.
         due("may", up.may(4), 1 | 4 | 8 | 16);
@@ -577,7 +500,7 @@ public final class PromisesTest {
         due("middle", up.form(4, true, -1), 25);
         due("radius", up.form(4, true, 3), 25);
         due("bound", up.bound(5), 51);
-        promise = "12, 18, DOWN";
+        part = "12, 18, DOWN";
         RoundedSums sure = of("input x from 0 to 8;let r=1+0 round 8;let p=pick r<1 then x else 3 round 0");
         // r: VALUE 1, DRIFT 128 by e1: U -128 .. 128: ELSE or DOWN.
         due("may", sure.may(2), 2 | 4 | 8 | 32);
@@ -586,7 +509,7 @@ public final class PromisesTest {
         due("drift", sure.form(2, true, -1), 1);
         due("drift", sure.form(2, true, 2), 4);
         due("blame", sure.blame(2), 2);
-        promise = "29";
+        part = "29";
         RoundedSums d = of(head + "r<-9 then 1 else 0 round 0;let b=pick r<1 then 1 else 0 round 0;let c=pick x<1 then 1 else 0 round 0;let d=pick r<0 then 1 else 0 round 0");
         refused(d, "about", d.about(9), -1, 1);
         due("doubtful(2)", throwsNoSuch(d, 2), true);
@@ -598,8 +521,8 @@ public final class PromisesTest {
         due("doubtful tells no trouble", d.trouble(), 1);
     }
 
-    private static void splitting() {
-        promise = "20";
+    static void promise20_splitting() {
+        part = "20";
         // e = x * r, r rounded with 1: DRIFT x * (1 e): RADIUS 4 * 1 and MIDDLE 4: BOUND 8 of 0 .. 8.
         RoundedSums x = of("input x from 0 to 8;let r=x+0 round 1;let e=x*r round 0");
         due("split(2, 0, 0)", x.split(2, 0, 0), 8);
@@ -620,7 +543,7 @@ public final class PromisesTest {
         refused(x, "split(2, 0, -1)", x.split(2, 0, -1), NOTHING, 1);
         refused(x, "split(3, 99, 0)", x.split(3, 99, 0), NOTHING, 1);
         refused(x, "split(-1, 0, 0)", x.split(-1, 0, 0), NOTHING, 1);
-        promise = "21";
+        part = "21";
         // The PIECE 12 .. 14 may part, however often the others are split.
         RoundedSums y = of("input x from 0 to 16;let s=x+0 round 1;let d=pick s<13 then 0 else 1 round 0");
         due("splits(2, 1)", y.splits(2, 1), 0);
@@ -642,7 +565,7 @@ public final class PromisesTest {
         due("split(2, 5, 0)", z.split(2, 5, 0), 0);
         due("split(2, 5, 1)", z.split(2, 5, 1), 6);
         // Like widths: the first INPUT; x alone of 6 and 8 can be divided.
-        promise = "20, which INPUT";
+        part = "20, which INPUT";
         RoundedSums two = of("input x from 0 to 8;input y from 0 to 8;let r=0+1 round 1;let a=y*r round 0");
         due("whole", two.split(3, 0, 0), 8);
         // x is split first: two of 8; then the first of them has y as its widest: 4 and 8, ...
@@ -655,8 +578,8 @@ public final class PromisesTest {
         due("no INPUT", none.split(0, 40, 0), 1);
     }
 
-    private static void seeking() {
-        promise = "22";
+    static void promise22_seeking() {
+        part = "22";
         // SEED 0: 74, 5624, 28632+... : (75 * 74 + 74) mod 65537 = 5624.
         RoundedSums x = of("input x from 0 to 100;let a=x+0 round 8");
         // 74 mod 101 is 74: ERROR -74; 256 and 128 leave; 64 less: 10: no; 32 less: no; 16 more: 90; again: 8 more: 98; 2 more: 100.
@@ -676,7 +599,7 @@ public final class PromisesTest {
         // 74 mod 301: 74 + 256 is beyond 300; + 128: 202: 54: no; + 64: 138: 118 more than 74: made; then - 8: 130: 126; - 2: 128 (tie, to 0): 128.
         due("climb", wide.climb(1, 1, 0), 128);
         due("witness", wide.witness(1, 1, 0, 0), 128);
-        promise = "23";
+        part = "23";
         RoundedSums two = of("let k=0+1 round 0;input x from 0 to 10;input y from -4 to 4;let a=x-x round 0");
         // SEED 0: 74 mod 11 = 8; 5624 mod 9 = 8: 4.
         due("x", two.witness(3, 1, 0, 1), 8);
@@ -689,7 +612,7 @@ public final class PromisesTest {
         refused(two, "VARIABLE ahead of 2", two.witness(4, 0, 0, 4), NOTHING, 1);
         refused(two, "VARIABLE ahead of 2", two.witness(-1, 0, 0, 1), NOTHING, 1);
         due("no mark", two.at(1, 0), 0);
-        promise = "24";
+        part = "24";
         due("worst(1)", x.worst(1), 100);
         due("worst(0)", x.worst(0), 0);
         refused(x, "worst(2)", x.worst(2), NOTHING, 1);
@@ -712,7 +635,7 @@ public final class PromisesTest {
         due("range", edge.range(1, 0, 998), true);
         due("all of them 0", edge.worst(2), 0);
         due("without INPUT", of("let a=3+0 round 2").worst(0), 1);
-        promise = "25";
+        part = "25";
         // x 0 .. 7 isn't even: 0 .. 8; r < 6: r is x round 2: 6 becomes 8, 5 becomes 4; EXACT of x < 5: parts where x is 5 alone (4 < 5).
         RoundedSums p = of("input x from 0 to 8;let r=x+0 round 2;let a=pick r<5 then 1 else 0 round 0;let b=pick r<5 then 1 else 0 round 0;let c=pick x<5 then 1 else 0 round 0");
         int seed = 0;
@@ -736,8 +659,8 @@ public final class PromisesTest {
         refused(p, "parts(2, 1, 65537)", p.parts(2, 1, 65537), -1, 2);
     }
 
-    private static void finerGrids() {
-        promise = "26";
+    static void promise26_finerGrids() {
+        part = "26";
         // BOUND of c: 8 (a) and 4 (b).
         RoundedSums x = of("input x from 0 to 2;let a=x+0 round 4;let b=x+1 round 3;let c=a+b round 0");
         due("finer(3, 12)", x.finer(3, 12), 0);
@@ -762,7 +685,7 @@ public final class PromisesTest {
         RoundedSums y = of("input x from 0 to 2;let a=x+0 round 2;let b=pick a<1 then 100 else 0 round 0");
         due("finer(2, 99)", y.finer(2, 99), -2);
         due("trouble", y.trouble(), 0);
-        promise = "27";
+        part = "27";
         due("grid(1, 2)", x.grid(1, 2), 4);
         due("it is another", x.variable(1, 4), 2);
         due("weight", x.variable(1, 6), 6);
@@ -785,7 +708,7 @@ public final class PromisesTest {
         due("all stays", w.variable(0, 4), 0);
         due("all stays", w.variable(1, 6), 1_000_000);
         refused(w, "grid(0, 9)", w.grid(0, 9), -1, 2);
-        promise = "28";
+        part = "28";
         RoundedSums r = of("input x from 0 to 2;input y from 0 to 4;let a=x*y round 1;let b=a*a round 0");
         due("set", r.set(0, 2), true);
         due("set", r.set(1, 3), true);
@@ -796,29 +719,29 @@ public final class PromisesTest {
         due("the point has from", r.at(0, 0), -7);
         due("of it alone", r.at(1, 0), 3);
         due("forms anew", r.form(0, false, 0), 8);
-        refused(r, "range(2, 0, 0)", r.range(2, 0, 0) ? 1 : 0, 0, 1);
-        refused(r, "range(4, 0, 1)", r.range(4, 0, 1) ? 1 : 0, 0, 1);
-        refused(r, "range(-1, 0, 0)", r.range(-1, 0, 0) ? 1 : 0, 0, 1);
-        refused(r, "range(0, 0, 1)", r.range(0, 0, 1) ? 1 : 0, 0, 2);
-        refused(r, "range(0, 2, 0)", r.range(0, 2, 0) ? 1 : 0, 0, 2);
-        refused(r, "range(0, -1001, 1)", r.range(0, -1001, 1) ? 1 : 0, 0, 2);
-        refused(r, "range(0, 1, 1001)", r.range(0, 1, 1001) ? 1 : 0, 0, 2);
-        refused(r, "range(0, 1002, 1002)", r.range(0, 1002, 1002) ? 1 : 0, 0, 2);
-        refused(r, "range(least, greatest)", r.range(0, Integer.MIN_VALUE, Integer.MAX_VALUE) ? 1 : 0, 0, 2);
-        refused(r, "range(0, least)", r.range(0, 0, Integer.MIN_VALUE) ? 1 : 0, 0, 2);
-        refused(r, "range(0, -1000, 0)", r.range(0, -1000, 0) ? 1 : 0, 0, 5);
+        refused(r, "range(2, 0, 0)", r.range(2, 0, 0), 1);
+        refused(r, "range(4, 0, 1)", r.range(4, 0, 1), 1);
+        refused(r, "range(-1, 0, 0)", r.range(-1, 0, 0), 1);
+        refused(r, "range(0, 0, 1)", r.range(0, 0, 1), 2);
+        refused(r, "range(0, 2, 0)", r.range(0, 2, 0), 2);
+        refused(r, "range(0, -1001, 1)", r.range(0, -1001, 1), 2);
+        refused(r, "range(0, 1, 1001)", r.range(0, 1, 1001), 2);
+        refused(r, "range(0, 1002, 1002)", r.range(0, 1002, 1002), 2);
+        refused(r, "range(least, greatest)", r.range(0, Integer.MIN_VALUE, Integer.MAX_VALUE), 2);
+        refused(r, "range(0, least)", r.range(0, 0, Integer.MIN_VALUE), 2);
+        refused(r, "range(0, -1000, 0)", r.range(0, -1000, 0), 5);
         due("all stays", r.variable(0, 1), -7);
         due("all stays", r.variable(2, 6), 38);
         // x * 4 + 2 squared and 1 more, a million at most: x 249 is too much: 998 * 998 + 1 fits, 1002 * 1002 + 1 doesn't.
         due("range(0, 1, 249)", r.range(0, 1, 249), true);
-        refused(r, "range(0, 0, 250)", r.range(0, 0, 250) ? 1 : 0, 0, 5);
+        refused(r, "range(0, 0, 250)", r.range(0, 0, 250), 5);
         due("the point stays", r.at(0, 0), 1);
         due("range(0, -1, -1)", r.range(0, -1, -1), true);
         due("one POINT", r.at(0, 0), -1);
     }
 
-    private static void limits() {
-        promise = "12, most noises";
+    static void promise12_limits() {
+        part = "12, most noises";
         // a brings two, each square of it five: P four times, ROUNDED (FINE 2, GRID 3).
         StringBuilder squares = new StringBuilder("input x from 1 to 3;input y from 1 to 3;input z from 2 to 4;let a=x*y round 1");
         for (char c = 'b'; c < 'm'; c++) {
@@ -831,7 +754,7 @@ public final class PromisesTest {
         due("the last one", x.noise(59, 0), 14);
         due("the last one", x.form(14, true, 59), 4);
         due("l by e4", x.form(14, true, 4), 8);
-        promise = "26, most times";
+        part = "26, most times";
         StringBuilder chain = new StringBuilder("input x from 0 to 2;let a=x+0 round 8");
         for (char c = 'b'; c < 'm'; c++) {
             chain.append(";let ").append(c).append("=").append((char) (c - 1)).append("+x round 8");
@@ -840,7 +763,7 @@ public final class PromisesTest {
         due("bound", y.bound(12), 12 * 128);
         due("finer", y.finer(12, 0), 96);
         due("finer", y.finer(12, 12), 84);
-        promise = "20, 21, most splits";
+        part = "20, 21, most splits";
         // p and q share what x brings by its MIDDLE, not their P: BOUND of s is how wide x is.
         RoundedSums z = of("input x from 0 to 512;let r=1+0 round 1;let p=x*r round 0;let q=x*r round 0;let s=p-q round 0");
         due("whole", z.split(4, 0, 0), 512);
@@ -857,8 +780,8 @@ public final class PromisesTest {
         due("splits(4, 15)", z.splits(4, 15), -2);
     }
 
-    private static void troubles() {
-        promise = "31";
+    static void promise31_troubles() {
+        part = "31";
         RoundedSums x = of(PLAIN);
         refused(x, "about(9)", x.about(9), -1, 1);
         due("trouble again", x.trouble(), 1);
@@ -905,28 +828,6 @@ public final class PromisesTest {
         x.about(9); tell(x, PLAIN); after[n++] = x.trouble();
         for (int i = 0; i < n; i++) {
             due("call " + i + " isn't refused", after[i], 0);
-        }
-    }
-
-    public static void main(String[] args) {
-        newObject();
-        feeding();
-        programs();
-        texts();
-        forms1();
-        otherFaults();
-        questions();
-        points();
-        formsOf();
-        picks();
-        splitting();
-        seeking();
-        finerGrids();
-        limits();
-        troubles();
-        System.out.println(wrong == 0 ? "all answers are as due" : wrong + " answers are not as due");
-        if (wrong != 0) {
-            System.exit(1);
         }
     }
 }
