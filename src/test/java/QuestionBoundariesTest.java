@@ -308,6 +308,14 @@ public final class QuestionBoundariesTest extends Check {
         }
     }
 
+    static void promise08_aPickMayBeTheFirstVariable() {
+        RoundedSums x = of("let p=pick 1<2 then 3 else 4 round 0");
+        for (int operand = 0; operand <= 3; operand++) {
+            taken(x, "operand(0, " + operand + ")", x.operand(0, operand), -2);
+        }
+        refused(x, "operand(0, 4)", x.operand(0, 4), -1, 1);
+    }
+
     static void promise08_vIsAStep() {
         RoundedSums x = of(PLAIN);
         refused(x, "an INPUT", x.operand(0, 0), -1, 1);
@@ -481,6 +489,13 @@ public final class QuestionBoundariesTest extends Check {
         taken(z, "COMPUTED alone goes THEN", z.went(2), 2);
     }
 
+    static void promise11_aPickMayBeTheFirstVariable() {
+        RoundedSums x = of("let p=pick 1<2 then 3 else 4 round 0");
+        taken(x, "went(0)", x.went(0), 3);
+        RoundedSums y = of("let p=pick 2<2 then 3 else 4 round 0");
+        taken(y, "went(0)", y.went(0), 0);
+    }
+
     static void promise11_anInputOrNoneIsRefusedBy1() {
         RoundedSums x = of(PLAIN);
         for (int v : new int[] {0, -1, 3, LEAST, MOST}) {
@@ -605,6 +620,15 @@ public final class QuestionBoundariesTest extends Check {
         due("by J", x.form(3, false, 3), 8);
         due("by y", x.form(3, false, 1), 0);
         due("by z", x.form(3, false, 2), 0);
+        RoundedSums turned = of("input x from -1 to 1;input y from 2 to 6;input z from -9 to -5;let a=pick x<0 then z else y round 0");
+        due("MIDDLE", turned.form(3, false, -1), -2);
+        due("by J", turned.form(3, false, 3), 8);
+        // One within the other: -9 .. 7 has 2 .. 6: -1, 8.
+        RoundedSums within = of("input x from -1 to 1;input y from 2 to 6;input z from -9 to 7;let a=pick x<0 then z else y round 0;let b=pick x<0 then y else z round 0");
+        for (int v = 3; v <= 4; v++) {
+            due("MIDDLE", within.form(v, false, -1), -1);
+            due("by J", within.form(v, false, v), 8);
+        }
     }
 
     static void promise12_aPickThatGoesOneWayHasThatForm() {
@@ -645,6 +669,28 @@ public final class QuestionBoundariesTest extends Check {
         RoundedSums other = of("input x from 0 to 8;let r=1+0 round 8;let s=3+0 round 2;let p=pick r<1 then s else x round 0");
         due("MIDDLE", other.form(3, true, -1), -1);
         due("by J", other.form(3, true, 3), 6);
+    }
+
+    static void promise12_theDriftOfAWayThatExactCantGoIsNoneOfThem() {
+        // s: 300, DRIFT 128 e1. DOWN: 300 and DRIFT less 0: 172 .. 428; ELSE 0; EXACT can't go THEN. J: 0 .. 428.
+        RoundedSums down = of("let r=1+0 round 8;let s=300+0 round 8;let p=pick r<1 then s else 0 round 0");
+        due("may", down.may(2), 2 | 4 | 8 | 32);
+        due("least", down.reach(2, true, 0), 0);
+        due("greatest", down.reach(2, true, 1), 428);
+        // UP: the same; THEN 0; EXACT can't go ELSE.
+        RoundedSums up = of("let r=1+0 round 8;let s=300+0 round 8;let p=pick r<2 then 0 else s round 0");
+        due("may", up.may(2), 1 | 4 | 8 | 16);
+        due("least", up.reach(2, true, 0), 0);
+        due("greatest", up.reach(2, true, 1), 428);
+    }
+
+    static void promise12_theDriftsOfBothWaysAreOfThemIfBothMayGo() {
+        // THEN DRIFT of a, -4 .. 4, ELSE that of b, -64 .. 64; nothing parts: x has no DRIFT.
+        RoundedSums x = of("input x from -1 to 1;let a=1+0 round 3;let b=1+0 round 7;let p=pick x<0 then a else b round 0;let q=pick x<0 then b else a round 0");
+        due("least", x.reach(3, true, 0), -64);
+        due("greatest", x.reach(3, true, 1), 64);
+        due("least", x.reach(4, true, 0), -64);
+        due("greatest", x.reach(4, true, 1), 64);
     }
 
     static void promise12_theJOfValuesIsAheadOfThatOfDrifts() {
@@ -758,6 +804,13 @@ public final class QuestionBoundariesTest extends Check {
         refused(x, "noise(-1, 0)", x.noise(-1, 0), -1, 1);
     }
 
+    static void promise15_oneVariableMayBringOne() {
+        RoundedSums x = of("let a=3+0 round 2");
+        taken(x, "noise(0, 0)", x.noise(0, 0), 0);
+        taken(x, "noise(0, 1)", x.noise(0, 1), 3);
+        refused(x, "noise(1, 0)", x.noise(1, 0), -1, 1);
+    }
+
     static void promise15_goneNoisesAreNotTold() {
         RoundedSums x = of(PLAIN);
         due("grid", x.grid(2, 0), 1);
@@ -849,6 +902,14 @@ public final class QuestionBoundariesTest extends Check {
         taken(x, "VALUE alone has one", x.blame(3), -2);
     }
 
+    static void promise18_noisesOfInputsDontCount() {
+        // DRIFT of p: J of 0 and UP, 50: 25, 25. q: 25 * 4 by x, 25 * 4 by P: like ones, but x is no STEP.
+        RoundedSums x = of("input x from -4 to 4;let r=1+0 round 8;let p=pick r<2 then 0 else 50 round 0;let q=p*x round 0");
+        due("by x", x.form(3, true, 0), 100);
+        due("of q", x.part(3, 3), 100);
+        taken(x, "blame(3)", x.blame(3), 3);
+    }
+
     static void promise18_vIsAVariable() {
         RoundedSums x = of(PLAIN);
         for (int v : new int[] {-1, 3, LEAST, MOST}) {
@@ -924,6 +985,13 @@ public final class QuestionBoundariesTest extends Check {
         taken(up, "q<3", up.may(3), EXACT_BOTH | COMPUTED_BOTH | 16);
         RoundedSums down = of(head + "3<q then 1 else 0 round 0");
         taken(down, "3<q", down.may(3), EXACT_BOTH | COMPUTED_BOTH | 32);
+    }
+
+    static void promise19_aPickMayBeTheFirstVariable() {
+        RoundedSums x = of("let p=pick 1<2 then 3 else 4 round 0");
+        taken(x, "may(0)", x.may(0), 1 | 4);
+        RoundedSums y = of("let p=pick 2<2 then 3 else 4 round 0");
+        taken(y, "may(0)", y.may(0), 2 | 8);
     }
 
     static void promise19_anInputOrNoneIsRefusedBy1() {

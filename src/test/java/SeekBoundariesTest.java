@@ -121,6 +121,16 @@ public final class SeekBoundariesTest extends Check {
         }
     }
 
+    static void promise20_piecesOfBound0AreSplitToo() {
+        // BOUND of x is 0 in all: as with like ones of any other.
+        RoundedSums x = of("input x from 0 to 8;let r=x+0 round 1");
+        int[] pieces = {1, 2, 3, 4, 4};
+        for (int n = 0; n < pieces.length; n++) {
+            taken(x, n + " times", x.split(0, n, 1), pieces[n]);
+            taken(x, n + " times", x.split(0, n, 0), 0);
+        }
+    }
+
     static void promise20_fromFromToTheMiddleIsMadeFirst() {
         // UP is 21, DOWN -21; J of 0 and DOWN is cut to -22 .. 0. -7 .. 1 and 1 .. 9 have both, 21; of -7 .. -3 T is from 0 on: DOWN alone.
         RoundedSums x = of("input x from -7 to 9;let a=x*x round 3;let b=pick a<1 then -7 else 14 round 0");
@@ -357,6 +367,29 @@ public final class SeekBoundariesTest extends Check {
     static void promise22_soOftenAsThereIsOne() {
         climbs("64, then 8 back", spiked(-1000, 1000, 56, 2, 64, 1), AT_0, 2, 56);
         climbs("64, then no 24 back", spiked(-1000, 1000, 40, 2, 64, 1), AT_0, 1, 64);
+    }
+
+    static void promise22_behindEachMoveMuchIsAskedFirstAgain() {
+        // 8, then 264 by 256, from which no way leads on; 12 by 4 would be more.
+        RoundedSums x = of("input x from -1000 to 1000;" + ONE
+                + "let a=pick x<8 then 0 else 1 round 0;let b=pick 8<x then 0 else a round 0;"
+                + "let c=pick x<12 then b else 3 round 0;let d=pick 12<x then 0 else c round 0;"
+                + "let f=pick x<264 then d else 2 round 0;let g=pick 264<x then 0 else f round 0;let e=g*one round 0");
+        int seed = seedFor(AT_0);
+        taken(x, "climb", x.climb(8, 1, seed), 2);
+        taken(x, "witness", x.witness(8, 1, seed, 0), 264);
+    }
+
+    static void promise22_behindEachMoveTheFirstInputIsAskedFirstAgain() {
+        // From 504, 504: y 512 (1), then x 505 (2), from which no way leads on; y 516 (3) would be more.
+        RoundedSums x = of("input x from -1000 to 1000;input y from -1000 to 1000;" + ONE
+                + "let a=pick y<512 then 0 else 1 round 0;let b=pick 512<y then 0 else a round 0;"
+                + "let c=pick y<516 then b else 3 round 0;let h=pick 516<y then 0 else c round 0;"
+                + "let k=b+b round 0;let i=pick x<505 then h else k round 0;let j=pick 505<x then 0 else i round 0;let e=j*one round 0");
+        int seed = 65536;
+        taken(x, "climb", x.climb(10, 1, seed), 2);
+        taken(x, "x", x.witness(10, 1, seed, 0), 505);
+        taken(x, "y", x.witness(10, 1, seed, 1), 512);
     }
 
     static void promise22_withinFromAndTo() {
@@ -636,6 +669,11 @@ public final class SeekBoundariesTest extends Check {
         refused(x, "parts(1, 0, 0)", x.parts(1, 0, 0), -1, 5);
         refused(x, "parts(4, 1, -1)", x.parts(4, 1, -1), -1, 5);
         refused(x, "parts(5, 0, 0)", x.parts(5, 0, 0), -1, 2);
+    }
+
+    static void promise25_aPickMayBeTheFirstVariable() {
+        RoundedSums x = of("let p=pick 1<2 then 3 else 4 round 0");
+        taken(x, "parts(0, 200, 0)", x.parts(0, 200, 0), -2);
     }
 
     static void promise25_equalWaysDontPart() {

@@ -204,6 +204,68 @@ public final class TextBoundariesTest extends Check {
         same("nothing is left of the one before", state(x), state(of(text)));
     }
 
+    /** INPUTS and STEPS in unlike places, with and without DRIFT, picks that may part. */
+    private static final String[] UNLIKE = {
+        "input x from 0 to 8;input y from -6 to 2;let a=x*y round 2;let b=pick a<9 then x else y round 3",
+        "let a=16*16 round 8;let b=3+0 round 5;input x from -4 to 4;let c=b*x round 4;let d=pick c<1 then b else a round 0",
+        "let a=5+2 round 3;let b=a*a round 1;let c=pick a<b then 7 else a round 2;let d=c-b round 0;input x from 3 to 3",
+        "input x from -1000 to 1000;input y from 1 to 1;input z from 0 to 2;let a=x-z round 0",
+        "let a=1+1 round 0"};
+
+    static void promise03_nothingIsLeftOfAnyProgramBefore() {
+        for (String first : UNLIKE) {
+            for (String second : UNLIKE) {
+                for (String third : UNLIKE) {
+                    RoundedSums x = of(first);
+                    tell(x, second);
+                    x.grid(3, 1);
+                    x.range(0, -2, 2);
+                    due("a fault", tell(x, first + ";"), -1);
+                    due("taken", tell(x, third) > 0, true);
+                    same("behind " + first + " and " + second, state(x), state(of(third)));
+                }
+            }
+        }
+    }
+
+    static void promise03_variablesOfTheProgramBeforeAreGone() {
+        String end = ";let c=1+2 round 3;let d=a*c round 3";
+        goneBehind("let a=1+1 round 0;input x from 0 to 8" + end);
+        goneBehind("let a=1+1 round 0;let p=pick a<2 then 1 else 0 round 0" + end);
+        goneBehind("let a=1+1 round 0;let b=a*3 round 4" + end);
+    }
+
+    /** Told twice, so that nothing of what it was kept in is new to the third. */
+    private static void goneBehind(String text) {
+        RoundedSums x = of(text);
+        due("the same again", tell(x, text), 4);
+        due("another", tell(x, "let a=1+1 round 0"), 1);
+        for (int v = 1; v <= 3; v++) {
+            refused(x, "variable", x.variable(v, 0), NOTHING, 1);
+            refused(x, "operand", x.operand(v, 0), -1, 1);
+            refused(x, "set", x.set(v, 0), 1);
+            refused(x, "at", x.at(v, 0), NOTHING, 1);
+            refused(x, "went", x.went(v), -1, 1);
+            refused(x, "form", x.form(v, true, -1), NOTHING, 1);
+            refused(x, "reach", x.reach(v, true, 0), NOTHING, 1);
+            refused(x, "bound", x.bound(v), NOTHING, 1);
+            refused(x, "shared", x.shared(0, v), -1, 1);
+            refused(x, "part", x.part(0, v), NOTHING, 1);
+            refused(x, "blame", x.blame(v), -1, 1);
+            refused(x, "may", x.may(v), -1, 1);
+            refused(x, "split", x.split(v, 0, 0), NOTHING, 1);
+            refused(x, "splits", x.splits(v, 0), -1, 1);
+            refused(x, "climb", x.climb(v, 1, 0), NOTHING, 1);
+            refused(x, "witness", x.witness(0, 1, 0, v), NOTHING, 1);
+            refused(x, "worst", x.worst(v), NOTHING, 1);
+            refused(x, "parts", x.parts(v, 1, 0), -1, 1);
+            refused(x, "finer", x.finer(v, 0), -1, 1);
+            refused(x, "grid", x.grid(v, 0), -1, 1);
+            refused(x, "range", x.range(v, 0, 0), 1);
+            due("doubtful", throwsNoSuch(x, v - 1), true);
+        }
+    }
+
     static void promise03_thePointIsFromOfEachInput() {
         String text = "let k=1+1 round 0;input x from -1000 to 1000;let a=x+k round 0;input y from 7 to 7;input z from 3 to 5";
         RoundedSums x = of(text);
@@ -319,6 +381,16 @@ public final class TextBoundariesTest extends Check {
         for (int v = 0; v < want.length; v++) {
             due("at " + v, x.at(v, 0), want[v]);
         }
+        for (char c = 'a'; c <= 'z'; c++) {
+            String one = String.valueOf(c);
+            good("let " + one + "=1+1 round 0;let " + one.repeat(2) + "=1+1 round 0;let " + one.repeat(3) + "=1+1 round 0;let "
+                    + one.repeat(4) + "=1+1 round 0;let " + one.repeat(5) + "=1+1 round 0;let " + one.repeat(6) + "=1+1 round 0", 6);
+        }
+        for (int place = 0; place < 6; place++) {
+            StringBuilder other = new StringBuilder("mmmmmm");
+            other.setCharAt(place, 'n');
+            good("let mmmmmm=1+1 round 0;let " + other + "=mmmmmm+1 round 0", 2);
+        }
     }
 
     static void promise03_wholesAreOfOneToFourDigits() {
@@ -379,6 +451,16 @@ public final class TextBoundariesTest extends Check {
             String other = key.length() < 6 ? key + "s" : key;
             good("let " + shorter + "=1+1 round 0;let " + other + "=" + shorter + "+1 round 0;let z=" + other + "-" + shorter + " round 0", 3);
             good("input " + shorter + " from 0 to 2;input " + other + " from 0 to 2;let z=" + other + "-" + shorter + " round 0", 3);
+        }
+    }
+
+    static void promise03_aKeptWordWithOneOtherLetterIsAName() {
+        for (String key : KEYS) {
+            for (int place = 0; place < key.length(); place++) {
+                StringBuilder near = new StringBuilder(key);
+                near.setCharAt(place, near.charAt(place) == 'q' ? 'w' : 'q');
+                good("let " + near + "=1+1 round 0;let z=" + near + "+1 round 0", 2);
+            }
         }
     }
 
@@ -474,6 +556,56 @@ public final class TextBoundariesTest extends Check {
         faulty(1, STEP + "^=");
         faulty(1, STEP + ";^a");
         faulty(1, STEP + ";^then");
+    }
+
+    static void promise05_aWordNearTheOneThatIsDueIsNotIt() {
+        String[] before = {"", "", "input x ", "input x from 0 ", "let a=1+1 ", "let a=pick 1<2 ", "let a=pick 1<2 then 3 "};
+        String[] due = {"input", "let", "from", "to", "round", "then", "else"};
+        for (int i = 0; i < due.length; i++) {
+            for (int place = 0; place < due[i].length(); place++) {
+                StringBuilder near = new StringBuilder(due[i]);
+                near.setCharAt(place, 'q');
+                faulty(1, before[i] + "^" + near + " 0");
+            }
+            faulty(1, before[i] + "^" + due[i] + "s 0");
+            faulty(1, before[i] + "^" + due[i].substring(1) + " 0");
+        }
+    }
+
+    static void promise05_whatStandsInAWord() {
+        for (int b = 0; b < 256; b++) {
+            String text = "let a" + (char) b + "=1+1 round 0";
+            if (b == 32 || b >= 'a' && b <= 'z') {
+                good(text, 1);
+            } else {
+                faulty(text, 1, b == '=' ? 6 : 5);
+            }
+        }
+    }
+
+    static void promise05_whatStandsInAWhole() {
+        for (int b = 0; b < 256; b++) {
+            String text = "let a=1" + (char) b + "+1 round 0";
+            if (b >= '0' && b <= '9') {
+                due(text, of(text).at(0, 0), 10 + b - '0' + 1);
+            } else if (b == 32) {
+                good(text, 1);
+            } else {
+                // Behind a sign it is + that can't be there.
+                faulty(text, 1, b == '+' || b == '-' || b == '*' ? 8 : 7);
+            }
+        }
+    }
+
+    static void promise05_whatBeginsAWholeWhereOnlyAWholeMayBe() {
+        for (int b = 0; b < 256; b++) {
+            if (b >= '0' && b <= '9' || b == 32) {
+                continue;
+            }
+            // A FAULT that a WHOLE would have, GREAT and BOUNDS, isn't met.
+            faulty("let a=1000*1000 round " + (char) b, 1, 22);
+            faulty("input x from 5 to " + (char) b, 1, b == '-' ? 19 : 18);
+        }
     }
 
     static void promise05_aByteThatBeginsNoToken() {
