@@ -84,8 +84,8 @@ public final class QuestionBoundariesTest extends Check {
 
     static void promise01_upTo512CallsAllIsPromised() {
         RoundedSums x = new RoundedSums();
-        String text = "let a=1+2 round 0";
-        due("feed, the first call", feed(x, text), 20);
+        // "let a=1+2 round 0   "
+        due("feed, the first call", x.feed(0x6c657420, 0x613d312b, 0x3220726f, 0x756e6420, 0x30202020), 20);
         due("program, the second", x.program(17), 1);
         for (int call = 3; call <= 512; call++) {
             due("call " + call, x.at(0, 0), 3);
