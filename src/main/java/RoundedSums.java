@@ -195,7 +195,7 @@ public final class RoundedSums {
         }
         troubleNumber = NO_TROUBLE;
         Run run = seeker.run;
-        run.reckon(current, thePoint, v);
+        run.reckonAt(current, thePoint, v);
         switch (what) {
             case 0:
                 return run.exact[v];
@@ -214,7 +214,7 @@ public final class RoundedSums {
             return none(NOT_SO);
         }
         troubleNumber = NO_TROUBLE;
-        seeker.run.reckon(current, thePoint, v);
+        seeker.run.reckonAt(current, thePoint, v);
         return seeker.run.ways(current, v);
     }
 
@@ -694,7 +694,11 @@ public final class RoundedSums {
 
         private long operandWeight(int v, int i) {
             int w = operandVariable[v * MOST_OPERANDS + i];
-            return w >= 0 ? weightOf[w] : Math.abs(operandNumber[v * MOST_OPERANDS + i]);
+            if (w >= 0) {
+                return weightOf[w];
+            }
+            int n = operandNumber[v * MOST_OPERANDS + i];
+            return n < 0 ? -n : n;
         }
 
         /** An OPERAND's number, those of VARIABLES being known. */
@@ -1277,7 +1281,7 @@ public final class RoundedSums {
         final long[] computed = new long[MOST_VARIABLES];
 
         /** Of a VARIABLE and those by which it is reckoned. */
-        void reckon(Program program, int[] point, int asked) {
+        void reckonAt(Program program, int[] point, int asked) {
             for (int v = 0; v <= asked; v++) {
                 if (!program.needs(asked, v)) {
                     continue;
@@ -1467,7 +1471,7 @@ public final class RoundedSums {
             seed = from;
             for (int i = 0; i < n; i++) {
                 drawPoint(program);
-                run.reckon(program, point, v);
+                run.reckonAt(program, point, v);
                 int ways = run.ways(program, v);
                 if (ways == 1 || ways == 2) {
                     return i;
@@ -1489,7 +1493,7 @@ public final class RoundedSums {
         }
 
         private long errorHere(Program program, int v) {
-            run.reckon(program, point, v);
+            run.reckonAt(program, point, v);
             return run.errorSize(v);
         }
 

@@ -7,7 +7,9 @@ import java.nio.file.Path;
 import java.util.ArrayList;
 import java.util.Arrays;
 import java.util.List;
+import java.util.Map;
 import java.util.Set;
+import java.util.TreeMap;
 import java.util.TreeSet;
 import java.util.regex.Matcher;
 import java.util.regex.Pattern;
@@ -88,24 +90,65 @@ public final class FaceTest {
             check("import " + imports.group(1), imports.group(1).equals("java.util.NoSuchElementException"));
         }
         check("one throw, of the document's", code.split("throw new", -1).length == 2 && code.contains("throw new NoSuchElementException("));
-        methods(text);
+        methods(code);
+        depths(code);
     }
 
-    private static void methods(String text) {
-        String[] lines = text.split("\n");
-        Pattern head = Pattern.compile("( +)(?:(?:public|private|static|final) )*[A-Za-z\\[\\]]* ?\\w+\\(([^;()]*)\\)(?: throws \\w+)? \\{");
+    /** The lines of each method from its head to its end, by name; of those that bear one name together. */
+    private static Map<String, List<String>> bodies(String code) {
+        String[] lines = code.split("\n");
+        Pattern head = Pattern.compile("( +)(?:(?:public|private|static|final) )*[A-Za-z\\[\\]]* ?(\\w+)\\([^;()]*\\)(?: throws \\w+)? \\{");
+        Map<String, List<String>> all = new TreeMap<>();
         for (int i = 0; i < lines.length; i++) {
             Matcher m = head.matcher(lines[i]);
             if (!m.matches() || lines[i].matches(" +(?:if|for|while|switch|return|else|\\}).*")) {
                 continue;
             }
-            check(lines[i].trim() + ": at most seven parameters", m.group(2).split(",").length <= 7);
             int end = i;
             while (end < lines.length && !lines[end].equals(m.group(1) + "}")) {
                 end++;
             }
-            check(lines[i].trim() + ": at most sixty lines", end - i < 60);
+            all.computeIfAbsent(m.group(2), name -> new ArrayList<>()).add(String.join("\n", Arrays.copyOfRange(lines, i, end)));
         }
+        return all;
+    }
+
+    private static void methods(String code) {
+        bodies(code).forEach((name, bodies) -> {
+            for (String body : bodies) {
+                String head = body.split("\n")[0];
+                check(head.trim() + ": at most seven parameters", head.split(",").length <= 7);
+                check(head.trim() + ": at most sixty lines", body.split("\n").length <= 60);
+            }
+        });
+    }
+
+    /** Calls of the face, and those that they make, told by their names; the library's are the last of a chain. */
+    private static void depths(String code) {
+        Map<String, List<String>> bodies = bodies(code);
+        for (String method : METHODS) {
+            String name = method.replaceAll(".* (\\w+)\\(.*", "$1");
+            check("the source has " + name, bodies.containsKey(name));
+            String chain = deepest(name, bodies, "");
+            check("at most eight calls deep:" + chain, chain.trim().split(" ").length <= 8);
+        }
+    }
+
+    /** The longest chain of calls that begins with a call, behind those that stand open. */
+    private static String deepest(String name, Map<String, List<String>> bodies, String open) {
+        String here = open + " " + name;
+        if (!bodies.containsKey(name) || here.trim().split(" ").length > 20) {
+            return here;
+        }
+        String most = here;
+        for (String body : bodies.get(name)) {
+            Matcher called = Pattern.compile("\\b(?!(?:if|for|while|switch|return)\\b)(\\w+)\\(").matcher(body.substring(body.indexOf('\n')));
+            while (called.find()) {
+                String chain = deepest(called.group(1), bodies, here);
+                most = chain.split(" ").length > most.split(" ").length ? chain : most;
+            }
+        }
+        return most;
     }
 
     public static void main(String[] args) throws IOException {
